@@ -354,6 +354,7 @@ public final class CupDraw {
         private final int[] apart = new int[MAX_TEAMS];
         private final int[] otherDays = new int[MAX_TEAMS];
         private final int[] potMates = new int[MAX_TEAMS];
+        // Empty but for the time of addLawful, which takes out each team that it puts in.
         private final int[] members = new int[MAX_GROUPS];
 
         void reset(int newGroups, int newPots) {
@@ -409,9 +410,6 @@ public final class CupDraw {
         }
 
         void addLawful(ResultList list) {
-            for (int group = 0; group < MAX_GROUPS; group++) {
-                members[group] = 0;
-            }
             placeFrom(0, 0, list);
         }
 

@@ -187,7 +187,10 @@ public final class PromisesTest {
         due("5: before", false, () -> draw.setApart(0, 4, true));
         due("5: the other way round", true, () -> draw.setApart(4, 0, true));
         due("5: results", 432, draw::results);
+        due("5: another pair", false, () -> draw.setApart(0, 5, false));
+        due("5: another pair", false, () -> draw.setApart(0, 3, false));
         due("5: no more", true, () -> draw.setApart(4, 0, false));
+        due("5: all results", 576, draw::results);
         due("5: both ways", false, () -> draw.setApart(0, 4, false));
         due("5: all results", 576, draw::results);
         due("5: of one pot", false, () -> draw.setApart(0, 1, true));
@@ -215,7 +218,10 @@ public final class PromisesTest {
         due("6: before", false, () -> draw.setOtherDays(0, 4, true));
         due("6: the other way round", true, () -> draw.setOtherDays(4, 0, true));
         due("6: results", 288, draw::results);
+        due("6: another pair", false, () -> draw.setOtherDays(0, 5, false));
+        due("6: another pair", false, () -> draw.setOtherDays(0, 3, false));
         due("6: no more", true, () -> draw.setOtherDays(4, 0, false));
+        due("6: all results", 576, draw::results);
         due("6: both ways", false, () -> draw.setOtherDays(0, 4, false));
         due("6: all results", 576, draw::results);
         due("6: of one pot", false, () -> draw.setOtherDays(0, 1, true));
@@ -404,6 +410,8 @@ public final class PromisesTest {
         due("16: taken", false, () -> draw.fits(1, 0));
         due("16: apart", false, () -> draw.fits(3, 0));
         due("16: free", true, () -> draw.fits(3, 2));
+        due("16: in the only result", true, () -> allDrawn().fits(3, 1));
+        due("16: not in the only result", false, () -> allDrawn().fits(3, 0));
         due("16: dead end", false, () -> deadEnd().fits(1, 1));
         due("16: team 6", INDEX, () -> draw.fits(6, 0));
         due("16: group 3", INDEX, () -> draw.fits(0, 3));
