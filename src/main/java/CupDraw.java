@@ -516,8 +516,9 @@ public final class CupDraw {
         }
 
         /**
-         * Keeps the results with the team in the group. The others stay behind them in the row, so
-         * that widen has them back without a copy: no narrowing moves a result across an older size.
+         * Keeps the results with the team in the group. The others stay behind them in the row,
+         * so that widen has them back without a copy: no narrowing moves a result across an older
+         * size.
          */
         void narrow(int team, int group) {
             int kept = 0;
